@@ -521,6 +521,10 @@ public final class SealedSums {
             return (int) (rest < 0 ? rest + by : rest);
         }
 
+        static int quotient(int number, int by) {
+            return by < 1 ? 0 : number / by;
+        }
+
         static int drawn(int seed, int which, int n) {
             return rest(stirred(stirred(seed, 7), which) >>> 1, n);
         }
@@ -974,8 +978,8 @@ public final class SealedSums {
         void setPlainIns(int v) {
             int left = v;
             for (int i = 0; i < MOST_INS; i++) {
-                c[Program.codeOfIn(i)] = left % t;
-                left /= t;
+                c[Program.codeOfIn(i)] = Numbers.rest(left, t);
+                left = Numbers.quotient(left, t);
             }
         }
 

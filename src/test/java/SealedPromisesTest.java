@@ -329,20 +329,24 @@ public final class SealedPromisesTest {
             DUE.is("just enough", x.opening(0, a, 7), Math.floorMod(1 + added, 7));
             DUE.is("all taken", x.count(4), 0);
         }
+        x.plain(3, 0, 6);
+        DUE.is("opens to 0, no budget", x.opening(1, 0, 7), -4);
         x.budget(100);
+        DUE.is("opens to 0", x.opening(1, 0, 7), 0);
+        DUE.is("taken", x.count(4), 40);
         DUE.is("width 6", x.opening(0, 6, 7), -1);
         DUE.is("width -1", x.opening(0, -1, 7), -1);
         DUE.is("width -2", x.opening(0, LEAST, 7), -1);
-        DUE.is("no such one", x.opening(1, 0, 7), -1);
+        DUE.is("no such one", x.opening(2, 0, 7), -1);
         x.mask(1, 6, 1);
-        x.work(2, 1, 1);
         x.work(2, 2, 2);
-        DUE.is("drowned", x.opening(3, 0, 7), -2);
+        x.work(2, 3, 3);
+        DUE.is("drowned", x.opening(4, 0, 7), -2);
         x.budget(0);
-        DUE.is("drowned, and no budget", x.opening(3, 0, 7), -2);
+        DUE.is("drowned, and no budget", x.opening(4, 0, 7), -2);
         x.dead(1);
-        DUE.is("dead and drowned", x.opening(3, 0, 7), -3);
-        DUE.is("dead, width 6", x.opening(3, 6, 7), -1);
+        DUE.is("dead and drowned", x.opening(4, 0, 7), -3);
+        DUE.is("dead, width 6", x.opening(4, 6, 7), -1);
     }
 
     private static void promise35() {
