@@ -265,6 +265,7 @@ public final class ProgramPromisesTest {
         fault(5, forty + "out a;out 1+1;out b;", 0, -1);
         fault(5, forty + "out a; out a+1;out a+1;", 6, forty.length() + 7);
         fault(5, forty + "out a+1;out z;", 4, forty.length() + 12);
+        fullProgram(forty);
         // An ask over 13 makes 24 works at most: here the second one goes beyond 40.
         String table = "table t:5,7,1,0,4,9,2,2,8,11,3,6,1;";
         SealedSums x = new SealedSums(13);
@@ -272,6 +273,27 @@ public final class ProgramPromisesTest {
         int works = x.works(0);
         DUE.is("about 24 works", works > 20 && works < 25, true);
         fault(13, "in a;" + table + "out ask t a;out ask t a;", 6, 5 + table.length() + 12);
+    }
+
+    /** b is a + a + .., 41 times. */
+    private static void fullProgram(String forty) {
+        SealedSums x = new SealedSums(5);
+        x.key(9973, 10, 0);
+        x.mask(0, 3, 1);
+        x.given(0, 0);
+        DUE.is("read", Due.read(x, forty + "out b;out 2;out a;out b;"), 0);
+        DUE.is("works", x.works(0), 40);
+        DUE.is("the last", x.step(0, 39, 1), 38);
+        DUE.is("behind it", x.step(0, 40, 0), -100);
+        DUE.is("cost", x.cost(0, 0), 40);
+        DUE.is("holds", x.holds(0, 0, 0), 1);
+        DUE.is("run", x.run(0, 0, 1), 1);
+        DUE.is("open", x.open(1), 41 * 3 % 5);
+        DUE.is("bound", Due.sealed(x, 4, 2), 41 * 4);
+        for (int v = 0; v < 5; v++) {
+            DUE.is("openly", x.openly(0, 0, v), 41 * v % 5);
+        }
+        DUE.is("differ", x.differ(0, 0), 0);
     }
 
     private static void promise18() {
