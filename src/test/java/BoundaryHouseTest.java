@@ -119,6 +119,7 @@ public final class BoundaryHouseTest {
         // Found with numbers that have no end (BigInteger), cut to 32 bits after each step.
         DOC.is("lot(0, 0, 1000000)", x.lot(0, 0, 1000000), 645596);
         DOC.is("lot(MOST, LEAST, 1000000)", x.lot(MOST, LEAST, 1000000), 527403);
+        DOC.says("Terms", "at last the rest of h, moved 1 bit down likewise, by n");
         for (int seed = -50; seed < 50; seed++) {
             int lot = x.lot(seed, 0, 1000);
             DOC.is("0 or more, below n", lot >= 0 && lot < 1000, true);
@@ -217,6 +218,8 @@ public final class BoundaryHouseTest {
     }
 
     private static void refusedKeys() {
+        DOC.says("Promise 7", "A KEY: its number.");
+        DOC.is("the fourth of four", Houses.small().key(101, 10, 0), 3);
         DOC.says("Promise 7", "NONE, and nothing happens: 4 are there, no such ones.");
         DOC.refused("a fifth key", Houses::full, x -> x.key(101, 10, 0), -1);
         DOC.refused("P 99", Houses::small, x -> x.key(99, 10, 0), -1);
@@ -323,19 +326,30 @@ public final class BoundaryHouseTest {
     private static void openingAdds() {
         DOC.says("Terms", "and adds LOT (2 * a + 1), which 2, of a SEED, less a");
         DOC.says("Promise 17", "the rest by T of what it OPENS to and what is added");
-        SealedSums x = new SealedSums(2);
-        x.key(101, 10, 0);
-        x.mask(0, 0, 1);
-        for (int a = 0; a < 6; a++) {
-            for (int lot = 0; lot <= 2 * a; lot++) {
-                int seed = 0;
-                while (Model.draw(seed, 2, 2 * a + 1) != lot) {
-                    seed++;
+        int[] ts = {2, 13};
+        for (int t : ts) {
+            for (int a = 0; a < 6; a++) {
+                for (int lot = 0; lot <= 2 * a; lot++) {
+                    addsLotLessWidth(t, a, lot);
                 }
-                x.budget(60);
-                DOC.is("width " + a + " adds " + (lot - a), x.opening(0, a, seed), Math.floorMod(lot - a, 2));
             }
         }
+    }
+
+    /** Of 0 and of T - 1, so that the rest by T is taken at both ends. */
+    private static void addsLotLessWidth(int t, int a, int lot) {
+        int seed = 0;
+        while (Model.draw(seed, 2, 2 * a + 1) != lot) {
+            seed++;
+        }
+        SealedSums x = new SealedSums(t);
+        x.key(101, 10, 0);
+        x.mask(0, 0, 1);
+        x.mask(0, t - 1, 1);
+        x.budget(120);
+        String name = "T " + t + ", width " + a + " adds " + (lot - a);
+        DOC.is(name + " to 0", x.opening(0, a, seed), Math.floorMod(lot - a, t));
+        DOC.is(name + " to T - 1", x.opening(1, a, seed), Math.floorMod(t - 1 + lot - a, t));
     }
 
     private static void refusedOpenings() {

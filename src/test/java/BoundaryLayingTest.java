@@ -71,6 +71,7 @@ public final class BoundaryLayingTest {
     }
 
     private static void layingsThatAreThere() {
+        DOC.says("Terms", "A LAYING of a PROGRAM for a KEY: WORKS (bits) that are made ANEW at once");
         DOC.says("Promise 21", "a LAYING (bits of WORKS that are there, of the first 12)");
         for (int works = 0; works <= 14; works++) {
             SealedSums x = of(5, chain("+", works));

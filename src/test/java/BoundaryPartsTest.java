@@ -151,6 +151,14 @@ public final class BoundaryPartsTest {
                 }
             }
         }
+        DOC.says("Terms", "c of j being LOT 100003, which j, of a SEED");
+        SealedSums two = new SealedSums(5);
+        two.key(101, 10, 0);
+        two.parts(0, 3, 3, 42);
+        int first = Model.draw(42, 1, PRIME);
+        int second = Model.draw(42, 2, PRIME);
+        DOC.is("c of 1 and 2", two.part(0, 1), (101 + first + second) % PRIME);
+        DOC.is("c of 1 and 2", two.part(0, 3), (101 + 3 * first + 9 * second) % PRIME);
         DOC.says("Terms", "modulo 100003");
         boolean wraps = false;
         for (int seed = 0; seed < 50; seed++) {

@@ -16,6 +16,8 @@ public final class BoundaryProgramTest {
         openTimes();
         sealedAndSealed();
         orderOfWorks();
+        letsAheadOfIns();
+        fortyWorksWorkedOut();
         choices();
         flatTables();
         steepTables();
@@ -167,6 +169,38 @@ public final class BoundaryProgramTest {
         givesAfter(5, "let d=b+c;", "a*b+d", 2, work(1, B, C), work(3, A, B), work(1, 1, 0));
     }
 
+    private static void letsAheadOfIns() {
+        DOC.says("Terms", "A PROGRAM's values are OPEN (plain numbers) or sealed: ins, WORKS.");
+        SealedSums x = new SealedSums(5);
+        DOC.is("a let is the first TELL", Due.read(x, "let d=3;let e=d+d;in a;out d;out e;out a+d;out a*e;"), 0);
+        DOC.is("OPEN", x.outs(0, 0), open(3));
+        DOC.is("OPEN", x.outs(0, 1), open(1));
+        DOC.is("a WORK", x.outs(0, 2), 0);
+        DOC.is("its k", x.step(0, 0, 2), 3);
+        DOC.is("an in", x.outs(0, 3), A);
+        DOC.is("works", x.works(0), 1);
+    }
+
+    private static void fortyWorksWorkedOut() {
+        DOC.says("Terms", "WORKS, numbered from 0 on, come as E's are gone through, from left to right, what is within "
+            + "ahead of what is around; all by T");
+        SealedSums x = new SealedSums(13);
+        Due.read(x, "in a;in b;out a" + "+a".repeat(38) + "*b-1;out b;out a;");
+        Due.read(x, "in a;in b;out a*b;out a;out b;");
+        DOC.is("works", x.works(0), 40);
+        DOC.is("the last", x.step(0, 39, 0), 4);
+        for (int v = 0; v < 169; v++) {
+            int a = v % 13;
+            int b = v / 13;
+            DOC.is("openly at " + v, x.openly(0, 0, v), (38 * a + a * b + 12) % 13);
+            DOC.is("b at " + v, x.openly(0, 1, v), b);
+            DOC.is("a at " + v, x.openly(0, 2, v), a);
+        }
+        // 38 is -1 by 13: the first outs are alike where a is -1, the others where a is b, which is at one v alone.
+        DOC.is("they differ", x.differ(0, 1), 168);
+        DOC.is("none differs from itself", x.differ(0, 0), 0);
+    }
+
     private static void choices() {
         DOC.says("Terms", "choose c a b: c * (a - b) + b");
         gives(5, "choose a b c", 2, work(2, B, C), work(3, A, 0), work(1, 1, C));
@@ -288,6 +322,12 @@ public final class BoundaryProgramTest {
     }
 
     private static void stepsOf() {
+        DOC.says("Promise 19", "Of its k-th WORK: what 0: 1 SUM, 2 LESS, 3 PRODUCT, 4 PLUS, 5 TIMES");
+        SealedSums kinds = fourOf("in a;out a+a;out a-a;out a*a;out a*3+1;");
+        int[] due0 = {1, 2, 3, 5, 4};
+        for (int k = 0; k < 5; k++) {
+            DOC.is("kind of " + k, kinds.step(0, k, 0), due0[k]);
+        }
         DOC.says("Promise 19", "1, 2: of which it is, a WORK's number or -10 less an in's number (2 of PLUS, TIMES: k)");
         SealedSums x = new SealedSums(13);
         String ins = "in a;in b;in c;in d;in e;in f;";
@@ -494,7 +534,7 @@ public final class BoundaryProgramTest {
         DOC.refused("openly", Houses::small, x -> x.openly(0, 0, 24), 2);
         DOC.says("Promise 27", "differ in some out");
         DOC.refused("differ", Houses::small, x -> x.differ(0, 0), 0);
-        DOC.says("Promise 19", "Of its k-th WORK");
+        DOC.says("Promise 19", "Of its k-th WORK: what 0: 1 SUM, 2 LESS, 3 PRODUCT, 4 PLUS, 5 TIMES");
         DOC.refused("step", Houses::small, x -> x.step(0, 1, 1), 0);
         DOC.says("Promise 20", "What an out of a PROGRAM is");
         DOC.refused("outs", Houses::small, x -> x.outs(0, 1), -11);

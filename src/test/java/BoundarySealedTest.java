@@ -86,6 +86,7 @@ public final class BoundarySealedTest {
         DOC.is("the greatest e", freshC(0, 10, 0), 130);
         DOC.says("Terms", "C is the rest of P * r + T * e + m by X (0 or more)");
         DOC.is("0 itself", freshC(0, 0, 0), 0);
+        DOC.says("Terms", "each under a KEY: C (0 .. X - 1) and a BOUND");
         DOC.is("-1", freshC(0, -1, 12), 1009);
         DOC.is("-13", freshC(0, -1, 0), 997);
         DOC.is("-130", freshC(0, -10, 0), 880);
@@ -424,6 +425,15 @@ public final class BoundarySealedTest {
     }
 
     private static void works() {
+        DOC.says("Terms", "Works on those of one KEY, alive");
+        SealedSums both = Houses.small();
+        DOC.is("under the first", both.work(0, 0, 3), 7);
+        DOC.is("its key", Due.sealed(both, 7, 0), 0);
+        DOC.is("under the second", both.work(0, 4, 4), 8);
+        DOC.is("its key", Due.sealed(both, 8, 0), 1);
+        DOC.is("as long as it is alive", both.dead(1), true);
+        DOC.is("no more", both.work(0, 4, 4), -1);
+        DOC.is("the other still", both.work(0, 7, 7), 9);
         DOC.says("Promise 10", "A work on two: kind 0 SUM, 1 LESS, 2 PRODUCT: its number.");
         SealedSums x = Houses.small();
         for (int kind = 0; kind < 3; kind++) {
@@ -501,6 +511,8 @@ public final class BoundarySealedTest {
     }
 
     private static void refusedAnews() {
+        DOC.says("Promise 12", "ANEW: its number.");
+        DOC.is("the last of all", withSealed(59).anew(58, 0, 1), 59);
         DOC.says("Promise 12", "NONE, and nothing happens: 60 are there, no such ones, a dead KEY (one of the two)");
         DOC.refused("60 are there", Houses::full, x -> x.anew(0, 0, 1), -1);
         for (int none : NO_NUMBER) {

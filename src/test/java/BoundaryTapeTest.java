@@ -21,6 +21,7 @@ public final class BoundaryTapeTest {
         everyByteInAName();
         everyByteInAnInt();
         names();
+        namesApart();
         words();
         ints();
         longest();
@@ -308,6 +309,23 @@ public final class BoundaryTapeTest {
         DOC.reads(5, "in aB;", 1, 4);
     }
 
+    /** Each is another NAME, so all of them can be told in one text, and each stands for its own. */
+    private static void namesApart() {
+        DOC.says("Terms", "NAMES (letters a .. z, 8 at most");
+        String[] names = {"a", "aa", "aaa", "aaaaaaaa", "aaaaaaa", "b", "ab", "ba", "bb", "bbbbbbbb", "abbbbbbb", "z", "zz",
+            "az", "za", "zzzzzzzz", "zzzzzzzy", "yzzzzzzz", "abcdefgh", "hgfedcba", "bbc", "bcb", "cbb", "c", "y"};
+        StringBuilder text = new StringBuilder();
+        for (int i = 0; i < names.length; i++) {
+            text.append("let ").append(names[i]).append("=").append(i).append(";");
+        }
+        for (int i = 0; i < names.length; i++) {
+            SealedSums x = new SealedSums(13);
+            DOC.is("read", Due.read(x, text + "out " + names[i] + ";out " + names[0] + ";"), 0);
+            DOC.is("what " + names[i] + " is", x.outs(0, 0), -30 - i % 13);
+            DOC.is("what " + names[0] + " is", x.outs(0, 1), -30);
+        }
+    }
+
     private static void words() {
         DOC.says("Terms", "none of the words in quotes");
         String[] words = {"in", "table", "let", "out", "choose", "ask"};
@@ -320,6 +338,8 @@ public final class BoundaryTapeTest {
             DOC.reads(2, "in " + word.substring(1) + ";", 0, -1);
             DOC.reads(2, "in " + word.substring(0, word.length() - 1) + ";", 0, -1);
             DOC.reads(2, "in " + word.substring(0, word.length() - 1) + "z;", 0, -1);
+            DOC.reads(2, "in z" + word.substring(1) + ";", 0, -1);
+            DOC.reads(2, "z" + word.substring(1) + " 1;", 1, 0);
         }
         DOC.reads(2, "in IN;", 1, 3);
         DOC.reads(2, "out in;", 1, 4);
