@@ -22,8 +22,11 @@ public final class BoundaryFaultTest {
         the5thOut();
         sixWithin();
         the7thWithin();
+        withinBehindSigns();
         besideOneAnother();
         told();
+        toldAnywhere();
+        toldOfSixty();
         namesInE();
         namesBehindAsk();
         tables();
@@ -341,6 +344,24 @@ public final class BoundaryFaultTest {
         }
     }
 
+    /** What is around a PART or a UNIT is around those behind it too, whatever sign stands between. */
+    private static void withinBehindSigns() {
+        DOC.says("Terms", "a 7th ( , choose, ask within one another (at it)");
+        String[] ahead = {"1+", "1-", "1*", "1*1*", "1+1*", "1*1-", "(1)*(1)+", "choose 1 1 1*"};
+        String[] lasts = {"(", "choose", "ask"};
+        for (String part : ahead) {
+            // Around at most five: what opens within the part itself is then the sixth.
+            for (int around = 0; around <= 5; around++) {
+                String open = "(".repeat(around) + part + "(".repeat(6 - around);
+                fine("out " + open + "1" + ")".repeat(6) + ";");
+                for (String last : lasts) {
+                    tooDeep("out " + open, last);
+                }
+            }
+            fine("out " + ("(" + part).repeat(5) + "1" + ")".repeat(5) + ";");
+        }
+    }
+
     private static void besideOneAnother() {
         DOC.says("Terms", "within one another");
         fine("out (1)+(1)+(1)+(1)+(1)+(1)+(1)+(1);");
@@ -376,6 +397,41 @@ public final class BoundaryFaultTest {
         for (int i = 0; i < 4; i++) {
             DOC.is("each text has its own", Due.read(x, "in a;table b:0,1;let c=a;"), 0);
         }
+    }
+
+    /** Not only the first that was told: each, whatever stands ahead of it and behind. */
+    private static void toldAnywhere() {
+        DOC.says("Terms", "3 TWICE: a NAME told already (of all kinds)");
+        String ahead = "in a;table b:0,1;let c=1;in d;table e:0,1;let f=d;out 1;in g;table h:0,1;let i=g;";
+        String[] tells = {"in %;", "table %:0,1;", "let %=1;"};
+        for (String tell : tells) {
+            for (char name = 'a'; name <= 'i'; name++) {
+                DOC.reads(2, ahead + tell.replace('%', name), 3, ahead.length() + tell.indexOf('%'));
+            }
+            DOC.reads(2, ahead + tell.replace('%', 'j'), 0, -1);
+        }
+    }
+
+    /** As many NAMES as 300 TOKENS can tell: 60 lets, of five TOKENS each. */
+    private static void toldOfSixty() {
+        DOC.says("Terms", "3 TWICE: a NAME told already (of all kinds)");
+        StringBuilder ahead = new StringBuilder();
+        for (int i = 0; i < 59; i++) {
+            ahead.append("let ").append(letName(i)).append("=").append(i % 5).append(";");
+        }
+        for (int i = 0; i < 59; i++) {
+            DOC.reads(5, ahead + "let " + letName(i) + "=1;", 3, ahead.length() + 4);
+            DOC.reads(5, ahead + "in " + letName(i) + ";", 3, ahead.length() + 3);
+            SealedSums x = new SealedSums(5);
+            DOC.is("a let of 59 in an E", Due.read(x, ahead + "out " + letName(i) + ";"), 0);
+            DOC.is("what it is", x.outs(0, 0), -30 - i % 5);
+        }
+        DOC.reads(5, ahead + "let " + letName(59) + "=" + letName(58) + ";", 0, -1);
+        DOC.reads(5, ahead + "let " + letName(59) + "=" + letName(59) + ";", 4, ahead.length() + 7);
+    }
+
+    private static String letName(int i) {
+        return (char) ('a' + i / 26) + "" + (char) ('a' + i % 26);
     }
 
     private static void namesInE() {

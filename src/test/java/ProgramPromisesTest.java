@@ -23,6 +23,7 @@ public final class ProgramPromisesTest {
         promise25();
         promise26();
         promise27();
+        eachProgramItsOwn();
         DUE.end();
     }
 
@@ -627,5 +628,53 @@ public final class ProgramPromisesTest {
         Due.read(z, "");
         DUE.is("no ins", z.differ(0, 1), 1);
         DUE.is("no outs", z.differ(2, 2), 0);
+    }
+
+    /** Four PROGRAMS at once, alike but for what they do: each call is about the one that it names. */
+    private static void eachProgramItsOwn() {
+        DUE.topic("four programs");
+        String[] outs = {"a+b", "a*b", "b-a", "2*b"};
+        int[][] steps = {{1, -10, -11}, {3, -10, -11}, {2, -11, -10}, {5, -11, 2}};
+        int[] costs = {1, 10, 1, 2};
+        int[] bounds = {8, 16, 8, 8};
+        int[] answers = {4, 3, 2, 1};
+        SealedSums x = new SealedSums(5);
+        int wide = x.key(1009, 100, 0);
+        int narrow = x.key(101, 100, 1);
+        x.given(0, x.mask(wide, 1, 1));
+        x.given(1, x.mask(wide, 3, 2));
+        for (String out : outs) {
+            DUE.is("read " + out, Due.read(x, "in a;in b;out " + out + ";"), 0);
+        }
+        for (int p = 0; p < 4; p++) {
+            DUE.is("works " + p, x.works(p), 1);
+            for (int what = 0; what < 3; what++) {
+                DUE.is("step " + p + " " + what, x.step(p, 0, what), steps[p][what]);
+            }
+            DUE.is("outs " + p, x.outs(p, 0), 0);
+            DUE.is("cost " + p, x.cost(p, 0), costs[p]);
+            DUE.is("cost laid " + p, x.cost(p, 1), costs[p] + 25);
+            // Fresh BOUNDS of 9 under 101: the product alone, with 81, is drowned.
+            DUE.is("holds " + p, x.holds(p, narrow, 0), p == 1 ? 0 : 1);
+            DUE.is("best " + p, x.best(p, narrow), p == 1 ? -2 : 0);
+            DUE.is("openly " + p, x.openly(p, 0, 1 + 3 * 5), answers[p]);
+            int ran = x.run(p, 0, 5);
+            DUE.is("run " + p, ran, 2 + p);
+            DUE.is("opens " + p, x.open(ran), answers[p]);
+            DUE.is("bound " + p, Due.sealed(x, ran, 2), bounds[p]);
+        }
+        for (int p = 0; p < 4; p++) {
+            for (int q = 0; q < 4; q++) {
+                int differ = 0;
+                for (int v = 0; v < 25; v++) {
+                    differ += plainly(p, v % 5, v / 5) == plainly(q, v % 5, v / 5) ? 0 : 1;
+                }
+                DUE.is("differ " + p + " " + q, x.differ(p, q), differ);
+            }
+        }
+    }
+
+    private static int plainly(int program, int a, int b) {
+        return Math.floorMod(program == 0 ? a + b : program == 1 ? a * b : program == 2 ? b - a : 2 * b, 5);
     }
 }
