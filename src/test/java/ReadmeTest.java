@@ -115,7 +115,7 @@ public final class ReadmeTest {
     }
 
     private void showsAllCalls() {
-        String all = String.join("\n", methods) + String.join("\n", rows);
+        String all = String.join("\n", rows);
         for (Method method : SealedSums.class.getDeclaredMethods()) {
             if (Modifier.isPublic(method.getModifiers())) {
                 due.is("the page shows " + method.getName(), all.contains("sums." + method.getName() + "("), true);
